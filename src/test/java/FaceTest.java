@@ -1,0 +1,90 @@
+import java.io.IOException;
+import java.lang.reflect.Field;
+import java.lang.reflect.Method;
+import java.lang.reflect.Modifier;
+import java.nio.file.Files;
+import java.nio.file.Path;
+import java.util.Arrays;
+import java.util.List;
+import java.util.Set;
+import java.util.TreeSet;
+
+/** The public face, and those rules of LANGUAGE.md that can be looked up quickly. */
+public final class FaceTest {
+    private static final Set<String> FACE = new TreeSet<>(List.of("stage 1", "add 3", "mark 3", "turn 1", "rotate 2",
+        "join 3", "cut 2", "fold 1", "unfold 1", "drop 1", "piece 2", "size 2", "crease 2", "why 1", "foldsAgain 1",
+        "step 1", "steps 1", "ways 1", "fewest 1", "place 2", "layer 2", "orders 1", "thickest 1", "reflected 1",
+        "append 1", "read 0", "refusal 1", "account 1", "share 0", "undo 0", "save 0", "restore 0"));
+    private static final List<String> FORBIDDEN = List.of("import ", "package ", "->", "::", "finally", "synchronized",
+        "assert ", "catch", "throw", "Exact(", "System.", "Thread", "Random", "var ", "\" +", "+ \"", "lambda");
+
+    private FaceTest() {
+    }
+
+    private static void constants() {
+        Due.due("NONE", FoldedTheatre.NONE, -1001);
+        Due.due("BAD", FoldedTheatre.BAD, -1002);
+        Due.due("REFUSED", FoldedTheatre.REFUSED, -1003);
+        Due.due("NOTHING", FoldedTheatre.NOTHING, -1004);
+    }
+
+    private static void members() {
+        Class<?> theatre = FoldedTheatre.class;
+        Due.due("public final class", theatre.getModifiers(), Modifier.PUBLIC | Modifier.FINAL);
+        Due.due("constructors", theatre.getDeclaredConstructors().length, 1);
+        Due.due("public constructors", theatre.getConstructors().length, 1);
+        Set<String> found = new TreeSet<>();
+        for (Method method : theatre.getDeclaredMethods()) {
+            String name = method.getName() + " " + method.getParameterCount();
+            if (Modifier.isPublic(method.getModifiers())) {
+                found.add(name);
+                Due.due(name + " returns int", method.getReturnType() == int.class);
+                Due.due(name + " takes int",
+                    Arrays.stream(method.getParameterTypes()).allMatch(type -> type == int.class));
+            } else {
+                Due.due(name + " is private", Modifier.isPrivate(method.getModifiers()));
+                Due.due(name + " has a name of its own", FACE.stream().noneMatch(
+                    told -> told.startsWith(method.getName() + " ")));
+            }
+        }
+        Due.due("the face " + found, found.equals(FACE));
+        int constants = 0;
+        for (Field field : theatre.getDeclaredFields()) {
+            if (Modifier.isPublic(field.getModifiers())) {
+                constants++;
+            } else {
+                Due.due(field.getName() + " is private", Modifier.isPrivate(field.getModifiers()));
+            }
+        }
+        Due.due("public constants", constants, 4);
+    }
+
+    private static void classes() {
+        Class<?>[] inside = FoldedTheatre.class.getDeclaredClasses();
+        Due.due("at most 12 classes", inside.length < 12);
+        for (Class<?> each : inside) {
+            Due.due(each + " is static", Modifier.isStatic(each.getModifiers()));
+            Due.due(each + " is not public", !Modifier.isPublic(each.getModifiers()));
+            for (Field field : each.getDeclaredFields()) {
+                boolean changes = Modifier.isStatic(field.getModifiers()) && !Modifier.isFinal(field.getModifiers());
+                Due.due(field + " is no static state", !changes);
+            }
+        }
+    }
+
+    private static void source() throws IOException {
+        String source = Files.readString(Path.of("src/main/java/FoldedTheatre.java"));
+        for (String word : FORBIDDEN) {
+            Due.due("no '" + word + "' in the source", !source.contains(word));
+        }
+        Due.due("only signs from 1 to 127", source.chars().allMatch(c -> c >= 1 && c <= 127));
+    }
+
+    public static void main(String[] args) throws IOException {
+        constants();
+        members();
+        classes();
+        source();
+        Due.finish();
+    }
+}
