@@ -63,10 +63,10 @@ public final class ExamplesTest {
     }
 
     public static void main(String[] args) {
-        stripStepsAndLayers();
-        cornerOnTheStage();
-        joinedAndCut();
-        texts();
+        Due.test("Examples: a strip, its steps and layers", ExamplesTest::stripStepsAndLayers);
+        Due.test("Examples: a corner that stands on the stage", ExamplesTest::cornerOnTheStage);
+        Due.test("Examples: strips that are joined and cut", ExamplesTest::joinedAndCut);
+        Due.test("Examples: texts, and a corner that does not fold", ExamplesTest::texts);
         Due.finish();
     }
 }

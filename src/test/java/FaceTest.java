@@ -1,4 +1,5 @@
 import java.io.IOException;
+import java.io.UncheckedIOException;
 import java.lang.reflect.Field;
 import java.lang.reflect.Method;
 import java.lang.reflect.Modifier;
@@ -65,6 +66,11 @@ public final class FaceTest {
         for (Class<?> each : inside) {
             Due.due(each + " is static", Modifier.isStatic(each.getModifiers()));
             Due.due(each + " is not public", !Modifier.isPublic(each.getModifiers()));
+            for (Method method : each.getDeclaredMethods()) {
+                Due.due(method + " has a name of its own", FACE.stream().noneMatch(
+                    told -> told.startsWith(method.getName() + " ")));
+                Due.due(method + " takes at most seven", method.getParameterCount() <= 7);
+            }
             for (Field field : each.getDeclaredFields()) {
                 boolean changes = Modifier.isStatic(field.getModifiers()) && !Modifier.isFinal(field.getModifiers());
                 Due.due(field + " is no static state", !changes);
@@ -72,19 +78,27 @@ public final class FaceTest {
         }
     }
 
-    private static void source() throws IOException {
-        String source = Files.readString(Path.of("src/main/java/FoldedTheatre.java"));
+    private static String text() {
+        try {
+            return Files.readString(Path.of("src/main/java/FoldedTheatre.java"));
+        } catch (IOException thrown) {
+            throw new UncheckedIOException(thrown);
+        }
+    }
+
+    private static void source() {
+        String source = text();
         for (String word : FORBIDDEN) {
             Due.due("no '" + word + "' in the source", !source.contains(word));
         }
         Due.due("only signs from 1 to 127", source.chars().allMatch(c -> c >= 1 && c <= 127));
     }
 
-    public static void main(String[] args) throws IOException {
-        constants();
-        members();
-        classes();
-        source();
+    public static void main(String[] args) {
+        Due.test("Face: the constants", FaceTest::constants);
+        Due.test("Face: the public members", FaceTest::members);
+        Due.test("Face: the classes inside", FaceTest::classes);
+        Due.test("Face: the source keeps to the language", FaceTest::source);
         Due.finish();
     }
 }

@@ -1,33 +1,6 @@
 /** Each promise of the document with ordinary inputs, the edges that it names, and wrong inputs. */
-public final class PromisesTest {
-    private static final int NONE = -1001;
-    private static final int BAD = -1002;
-    private static final int REFUSED = -1003;
-    private static final int NOTHING = -1004;
-    private static final int[] NO_PIECES = {-1, 8, 9, -1001, Integer.MAX_VALUE, Integer.MIN_VALUE};
-
+public final class PromisesTest extends Theatres {
     private PromisesTest() {
-    }
-
-    private static void refused(FoldedTheatre x, String call, int answer, int reason, int detail) {
-        Due.due(call, answer, REFUSED);
-        Due.due(call + ", the reason", x.refusal(0), reason);
-        Due.due(call + ", the detail", x.refusal(1), detail);
-        Due.due(call + ", the command", x.refusal(2), NOTHING);
-    }
-
-    private static FoldedTheatre with(int kind, int sizes, int creases) {
-        FoldedTheatre x = new FoldedTheatre();
-        Due.due("add(" + kind + ", " + sizes + ", " + creases + ")", x.add(kind, sizes, creases), 0);
-        return x;
-    }
-
-    private static FoldedTheatre full() {
-        FoldedTheatre x = new FoldedTheatre();
-        for (int i = 0; i < 8; i++) {
-            Due.due("add", x.add(0, 22, 1), i);
-        }
-        return x;
     }
 
     /** 1 */
@@ -78,14 +51,17 @@ public final class PromisesTest {
         }
         Due.due("no piece is added", x.account(0), 0);
         Due.due("no change", x.account(12), 0);
-        int[][] right = {{0, 12, 0}, {0, 99, 2}, {0, 1234567, 121212}, {0, 1111111, 0}, {1, 6666, 0}, {1, 993111, 222111},
-            {1, 33333333, 22222222}, {1, 9113, 0}};
+        int[][] right = {{0, 12, 0}, {0, 99, 2}, {0, 1234567, 121212}, {0, 1111111, 0}, {1, 6666, 0},
+            {1, 993111, 222111}, {1, 33333333, 22222222}, {1, 9113, 0}};
         for (int i = 0; i < 7; i++) {
             Due.due("add of " + right[i][1], x.add(right[i][0], right[i][1], right[i][2]), i);
         }
         Due.due("add(1, 9113, 0)", x.add(1, 9113, 0), BAD);
         Due.due("add(1, 9393, 0)", x.add(1, 9393, 21), 7);
-        Due.due("creases begin with 0", x.crease(7, 0) * 1000 + x.crease(7, 1) * 100 + x.crease(7, 2) * 10 + x.crease(7, 3), 21);
+        int[] creases = {0, 0, 2, 1};
+        for (int i = 0; i < 4; i++) {
+            Due.due("creases begin with 0", x.crease(7, i), creases[i]);
+        }
         Due.due("sizes, the first one first", x.size(2, 0) * 100 + x.size(2, 1) * 10 + x.size(2, 6), 127);
         Due.due("creases, the first one first", x.crease(5, 0) * 10 + x.crease(5, 5), 21);
         Due.due("it is not folded", x.account(3), 0);
@@ -737,9 +713,9 @@ public final class PromisesTest {
     }
 
     private static void readErrors() {
-        String[] bad = {"s1:m", "s12345678:mmmmmmm", "s12:mm", "s12:om", "s123:m", "s123:mmm", "c6665:mmmm", "c6666:mmm",
-            "c6666:mmmmm", "c6666:ommmv", "c66:mm", "m2.0=m", "m0.2=m", "m0.9=o", "t9", "f2", "u9", "x2", "s12:m;x0;x0;x0;x0",
-            "t0;t2", "s22:m;s22:mm"};
+        String[] bad = {"s1:m", "s12345678:mmmmmmm", "s12:mm", "s12:om", "s123:m", "s123:mmm", "c6665:mmmm",
+            "c6666:mmm", "c6666:mmmmm", "c6666:ommmv", "c66:mm", "m2.0=m", "m0.2=m", "m0.9=o", "t9", "f2", "u9", "x2",
+            "s12:m;x0;x0;x0;x0", "t0;t2", "s22:m;s22:mm"};
         for (String text : bad) {
             FoldedTheatre x = with(0, 323, 12);
             x.add(1, 6666, 1112);
@@ -895,7 +871,8 @@ public final class PromisesTest {
         }
         for (int decided = 1; decided <= all; decided++) {
             Due.due("mark", x.mark((decided - 1) / 6, (decided - 1) % 6, 2), 0);
-            Due.due("share of " + decided + " of " + all, x.share(), Float.floatToIntBits((float) decided / (float) all));
+            int due = Float.floatToIntBits((float) decided / (float) all);
+            Due.due("share of " + decided + " of " + all, x.share(), due);
         }
     }
 
@@ -997,8 +974,9 @@ public final class PromisesTest {
         x.add(0, 323, 11);
         x.fold(0);
         String old = Due.state(x);
-        int[] answers = {x.stage(3), x.stage(0), x.add(0, 1, 1), x.mark(0, 0, 2), x.mark(1, 0, 3), x.turn(0), x.rotate(2, 0),
-            x.join(0, 2, 1), x.join(1, 2, 1), x.cut(0, 0), x.cut(2, 0), x.fold(0), x.fold(2), x.unfold(1), x.drop(3)};
+        int[] answers = {x.stage(3), x.stage(0), x.add(0, 1, 1), x.mark(0, 0, 2), x.mark(1, 0, 3), x.turn(0),
+            x.rotate(2, 0), x.join(0, 2, 1), x.join(1, 2, 1), x.cut(0, 0), x.cut(2, 0), x.fold(0), x.fold(2),
+            x.unfold(1), x.drop(3)};
         for (int i = 0; i < answers.length; i++) {
             Due.due("error " + i, answers[i] < -1000);
         }
@@ -1007,38 +985,38 @@ public final class PromisesTest {
     }
 
     public static void main(String[] args) {
-        newObject();
-        stage();
-        add();
-        mark();
-        turn();
-        rotate();
-        join();
-        cut();
-        fold();
-        unfold();
-        drop();
-        piece();
-        size();
-        crease();
-        why();
-        foldsAgain();
-        stepAndSteps();
-        ways();
-        fewest();
-        place();
-        layer();
-        orders();
-        thickest();
-        reflected();
-        append();
-        read();
-        refusal();
-        account();
-        share();
-        undo();
-        saveAndRestore();
-        errorsLeaveTheState();
+        Due.test("Promise 1: A new object", PromisesTest::newObject);
+        Due.test("Promise 2: stage", PromisesTest::stage);
+        Due.test("Promise 3: add", PromisesTest::add);
+        Due.test("Promise 4: mark", PromisesTest::mark);
+        Due.test("Promise 5: turn", PromisesTest::turn);
+        Due.test("Promise 6: rotate", PromisesTest::rotate);
+        Due.test("Promise 7: join", PromisesTest::join);
+        Due.test("Promise 8: cut", PromisesTest::cut);
+        Due.test("Promise 9: fold", PromisesTest::fold);
+        Due.test("Promise 10: unfold", PromisesTest::unfold);
+        Due.test("Promise 11: drop", PromisesTest::drop);
+        Due.test("Promise 12: piece", PromisesTest::piece);
+        Due.test("Promise 13: size", PromisesTest::size);
+        Due.test("Promise 14: crease", PromisesTest::crease);
+        Due.test("Promise 15: why", PromisesTest::why);
+        Due.test("Promise 16: foldsAgain", PromisesTest::foldsAgain);
+        Due.test("Promises 17 and 18: step and steps", PromisesTest::stepAndSteps);
+        Due.test("Promise 19: ways", PromisesTest::ways);
+        Due.test("Promise 20: fewest", PromisesTest::fewest);
+        Due.test("Promise 21: place", PromisesTest::place);
+        Due.test("Promise 22: layer", PromisesTest::layer);
+        Due.test("Promise 23: orders", PromisesTest::orders);
+        Due.test("Promise 24: thickest", PromisesTest::thickest);
+        Due.test("Promise 25: reflected", PromisesTest::reflected);
+        Due.test("Promise 26: append", PromisesTest::append);
+        Due.test("Promise 27: read", PromisesTest::read);
+        Due.test("Promise 28: refusal", PromisesTest::refusal);
+        Due.test("Promise 29: account", PromisesTest::account);
+        Due.test("Promise 30: share", PromisesTest::share);
+        Due.test("Promise 31: undo", PromisesTest::undo);
+        Due.test("Promises 32 and 33: save and restore", PromisesTest::saveAndRestore);
+        Due.test("What is refused or wrong leaves the state", PromisesTest::errorsLeaveTheState);
         Due.finish();
     }
 }

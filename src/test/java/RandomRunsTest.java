@@ -116,7 +116,8 @@ public final class RandomRunsTest {
                 return;
             case 4: same("turn(" + piece + ")", theatre.turn(piece), model.turn(piece)); return;
             case 5:
-                same("rotate(" + piece + ", " + crease + ")", theatre.rotate(piece, crease), model.rotate(piece, crease));
+                call = "rotate(" + piece + ", " + crease + ")";
+                same(call, theatre.rotate(piece, crease), model.rotate(piece, crease));
                 return;
             case 6:
                 call = "join(" + piece + ", " + other + ", " + kind + ")";
@@ -201,10 +202,14 @@ public final class RandomRunsTest {
         lookAtAll();
     }
 
-    public static void main(String[] args) {
+    private static void runs() {
         for (int seed = 1; seed <= 3000; seed++) {
             new RandomRunsTest(seed).run();
         }
+    }
+
+    public static void main(String[] args) {
+        Due.test("Random runs: 3000 runs of calls answer as the model does", RandomRunsTest::runs);
         Due.finish();
     }
 }

@@ -141,14 +141,14 @@ public final class ShapesTest {
     }
 
     public static void main(String[] args) {
-        allStrips("", 6, 3);
         Random random = new Random(7);
-        someStrips(random, 1500);
-        allCorners("", 24, 4, 1, new int[1]);
-        allCorners("", 24, 6, 40, new int[1]);
-        allCorners("", 24, 8, 1000, new int[1]);
-        evenCorners(random, 300);
-        faultPositions(random);
+        Due.test("Shapes: all strips of 2 to 6 panels from 1 to 3", () -> allStrips("", 6, 3));
+        Due.test("Shapes: some longer strips", () -> someStrips(random, 1500));
+        Due.test("Shapes: all corners of 4 angles", () -> allCorners("", 24, 4, 1, new int[1]));
+        Due.test("Shapes: some corners of 6 angles", () -> allCorners("", 24, 6, 40, new int[1]));
+        Due.test("Shapes: some corners of 8 angles", () -> allCorners("", 24, 8, 1000, new int[1]));
+        Due.test("Shapes: corners with even angles of 12 together", () -> evenCorners(random, 300));
+        Due.test("Shapes: fault positions of many texts", () -> faultPositions(random));
         Due.finish();
     }
 }
