@@ -251,26 +251,38 @@ public final class BoundaryCallsTest extends Theatres {
 
     // ---- 8
 
+    private static void partIs(FoldedTheatre x, int piece, String sizes, String creases) {
+        Due.due("a strip", x.piece(piece, 0), 0);
+        Due.due("the panels of " + sizes, x.piece(piece, 1), sizes.length());
+        Due.due("the creases of " + sizes, x.piece(piece, 2), creases.length());
+        Due.due("not folded", x.piece(piece, 7), 0);
+        for (int i = 0; i < sizes.length(); i++) {
+            Due.due("size " + i + " of " + sizes, x.size(piece, i), sizes.charAt(i) - '0');
+        }
+        for (int i = 0; i < creases.length(); i++) {
+            Due.due("crease " + i + " of " + sizes, x.crease(piece, i), creases.charAt(i) - '0');
+        }
+    }
+
     private static void cutParts() {
-        FoldedTheatre x = strip(1234567, 121212);
+        FoldedTheatre x = strip(1234567, 120211);
+        x.add(1, 6666, 1112);
         refused(x, "cut(0, 0)", x.cut(0, 0), 6, 1);
         refused(x, "cut(0, 5)", x.cut(0, 5), 6, 1);
         Due.due("cut(0, 6)", x.cut(0, 6), NONE);
         for (int crease : EXTREMES) {
             Due.due("cut(0, " + crease + ")", x.cut(0, crease), NONE);
         }
-        Due.due("cut(0, 4)", x.cut(0, 4), 1);
-        Due.due("2 panels at the right", x.piece(1, 1) * 100 + x.size(1, 0) * 10 + x.size(1, 1), 267);
-        Due.due("their crease", x.crease(1, 0), 2);
-        Due.due("cut(0, 1)", x.cut(0, 1), 2);
-        Due.due("2 panels at the left", x.piece(0, 1) * 100 + x.size(0, 0) * 10 + x.size(0, 1), 212);
-        Due.due("their crease", x.crease(0, 0), 1);
-        Due.due("3 panels at the right", x.piece(2, 1) * 100 + x.size(2, 0) * 10 + x.size(2, 2), 335);
-        Due.due("their creases", x.crease(2, 0) * 10 + x.crease(2, 1), 12);
+        Due.due("cut(0, 1), with 2 panels at the left", x.cut(0, 1), 2);
+        partIs(x, 0, "12", "1");
+        partIs(x, 2, "34567", "0211");
+        Due.due("cut(2, 2), with 2 panels at the right", x.cut(2, 2), 3);
+        partIs(x, 2, "345", "02");
+        partIs(x, 3, "67", "1");
         refused(x, "cut of 2 panels", x.cut(0, 0), 6, 1);
         refused(x, "cut of 3 panels", x.cut(2, 0), 6, 1);
         refused(x, "cut of 3 panels", x.cut(2, 1), 6, 1);
-        Due.due("the pieces", x.account(0), 3);
+        Due.due("the pieces", x.account(0), 4);
     }
 
     private static void cutRefusals() {
@@ -368,6 +380,13 @@ public final class BoundaryCallsTest extends Theatres {
             Due.due("piece(0, " + what + ")", x.piece(0, what), strip[what]);
             Due.due("piece(1, " + what + ")", x.piece(1, what), corner[what]);
         }
+        x.add(0, 21, 2);
+        Due.due("before it is folded", x.piece(2, 7) * 10 + x.piece(2, 8), 2);
+        x.fold(2);
+        Due.due("folded", x.piece(2, 7) * 10 + x.piece(2, 8), 12);
+        x.unfold(2);
+        Due.due("unfolded", x.piece(2, 7) * 10 + x.piece(2, 8), 2);
+        x.drop(2);
         for (int what : new int[] {-1, 9, Integer.MAX_VALUE, Integer.MIN_VALUE}) {
             Due.due("piece(0, " + what + ")", x.piece(0, what), BAD);
             Due.due("no such piece ahead of no such what", x.piece(2, what), NONE);
@@ -461,6 +480,8 @@ public final class BoundaryCallsTest extends Theatres {
 
     private static void fewestReturns() {
         Due.due("if it folds", strip(323, 12).fewest(0), 0);
+        Due.due("if it folds with mountains alone", strip(9999999, 111111).fewest(0), 0);
+        Due.due("if it folds with valleys alone", strip(9999999, 222222).fewest(0), 0);
         Due.due("if one is wrong", strip(323, 11).fewest(0), 1);
         Due.due("undecided ones do not count", strip(323, 0).fewest(0), 0);
         Due.due("undecided ones do not count", strip(323, 10).fewest(0), 0);
@@ -607,6 +628,24 @@ public final class BoundaryCallsTest extends Theatres {
         }
     }
 
+    private static void accountOfFoldedPieces() {
+        FoldedTheatre x = full();
+        Due.due("the panels", x.account(6), 16);
+        for (int folded = 1; folded <= 8; folded++) {
+            Due.due("fold", x.fold(folded - 1), 2);
+            Due.due("those that are folded", x.account(3), folded);
+            Due.due("the width that is free", x.account(5), 30 - 2 * folded);
+            Due.due("how often something was folded", x.account(10), folded);
+        }
+        x.unfold(0);
+        Due.due("those that are folded", x.account(3), 7);
+        x.drop(7);
+        Due.due("those that are folded", x.account(3), 6);
+        Due.due("the panels", x.account(6), 14);
+        Due.due("the width that is free", x.account(5), 18);
+        Due.due("how often something was folded", x.account(10), 8);
+    }
+
     private static void foldsAsUndoAndRestoreLeaveThem() {
         FoldedTheatre x = strip(323, 12);
         x.save();
@@ -654,6 +693,12 @@ public final class BoundaryCallsTest extends Theatres {
             y.add(1, 33333333, i == 0 ? 1 : 0);
         }
         Due.due("1 of 64", y.share(), Float.floatToIntBits(1f / 64f));
+        for (int i = 0; i < 63; i++) {
+            y.mark(i / 8, i % 8, 1 + i % 2);
+        }
+        Due.due("63 of 64", y.share(), Float.floatToIntBits(63f / 64f));
+        y.mark(7, 7, 2);
+        Due.due("64 of 64", y.share(), Float.floatToIntBits(1f));
     }
 
     private static void piecesThatAreNotThere() {
@@ -713,6 +758,7 @@ public final class BoundaryCallsTest extends Theatres {
         Due.test("25: reflected", BoundaryCallsTest::reflectedReturns);
         Due.test("28: refusal", BoundaryCallsTest::refusalReturns);
         Due.test("29: account", BoundaryCallsTest::accountReturns);
+        Due.test("29: account of folded pieces", BoundaryCallsTest::accountOfFoldedPieces);
         Due.test("29: how often something was folded", BoundaryCallsTest::foldsAsUndoAndRestoreLeaveThem);
         Due.test("30: share", BoundaryCallsTest::shareReturns);
         Due.test("4 to 25: NONE if there is no such piece", BoundaryCallsTest::piecesThatAreNotThere);

@@ -65,6 +65,18 @@ public final class BoundaryFoldingTest extends Theatres {
         ordersOf(11211, 2111, 6, 0, 1, 4, 2, 3);
     }
 
+    /** A row of stamps can be folded upon one of them in a known number of orders, with all creases taken together. */
+    private static void rowsOfStamps() {
+        int[] known = {2, 6, 16, 50, 144, 462};
+        for (int panels = 2, sizes = 11; panels <= 7; panels++, sizes = sizes * 10 + 1) {
+            int orders = 0;
+            for (String creases : Model.Shapes.decided(panels - 1)) {
+                orders += strip(sizes, Integer.parseInt(creases.replace('m', '1').replace('v', '2'))).orders(0);
+            }
+            Due.due("orders of " + sizes, orders, known[panels - 2]);
+        }
+    }
+
     private static void firstPossibleOrder() {
         // The orders 0312, 1203 and 2301: the layer of the panel 0.
         ordersOf(1111, 222, 3, 0, 3, 1, 2);
@@ -90,6 +102,41 @@ public final class BoundaryFoldingTest extends Theatres {
         stepsOf(0, 421, 11, 2, 2);
         stepsOf(0, 422, 11, 2, 2);
         stepsOf(0, 423, 11, NOTHING, 0);
+    }
+
+    /** What is left behind the first panel, or ahead of the last one, is the other one with all other creases. */
+    private static void goneWithItsCrease() {
+        stepsOf(0, 1323, 122, 1, 1);
+        whyOf(0, 1323, 122, 5);
+        stepsOf(0, 1323, 212, 1, 2);
+        whyOf(0, 1323, 212, 0);
+        stepsOf(0, 3231, 221, 2, 1);
+        whyOf(0, 3231, 221, 5);
+        stepsOf(0, 3231, 212, 2, 2);
+        whyOf(0, 3231, 212, 0);
+    }
+
+    /** A longer piece that was asked about before leaves nothing behind. */
+    private static void shorterBehindLonger() {
+        FoldedTheatre x = strip(1111111, 121212);
+        x.add(1, 33333333, 12121212);
+        x.add(0, 323, 11);
+        x.add(0, 424, 22);
+        x.add(1, 6666, 1111);
+        for (int longer = 0; longer <= 1; longer++) {
+            for (int shorter = 2; shorter <= 4; shorter++) {
+                x.steps(longer);
+                Due.due("step of piece " + shorter, x.step(shorter), NOTHING);
+                x.orders(0);
+                Due.due("steps of piece " + shorter, x.steps(shorter), 0);
+                x.why(longer);
+                Due.due("fewest of piece " + shorter, x.fewest(shorter), 1);
+            }
+        }
+        Due.due("orders of 323", x.orders(2), 0);
+        Due.due("orders of 424", x.orders(3), 0);
+        Due.due("thickest of 323", x.thickest(2), 3);
+        Due.due("why of 6666", x.why(4), 2);
     }
 
     private static void stepsInTheirOrder() {
@@ -301,9 +348,12 @@ public final class BoundaryFoldingTest extends Theatres {
         Due.test("Layers: from 0 at the bottom, no two the same one", BoundaryFoldingTest::eachLayerOnce);
         Due.test("Layers: a panel that reaches over a crease to both sides", BoundaryFoldingTest::panelOverACrease);
         Due.test("Layers: two creases at one place, at the same end", BoundaryFoldingTest::creasesAtOnePlace);
+        Due.test("Layers: rows of 2 to 7 stamps", BoundaryFoldingTest::rowsOfStamps);
         Due.test("Layers: the first possible order", BoundaryFoldingTest::firstPossibleOrder);
         Due.test("Reducing: 1, the first panel, if it is not longer", BoundaryFoldingTest::firstPanelNotLonger);
         Due.test("Reducing: 2, the last panel likewise", BoundaryFoldingTest::lastPanelNotLonger);
+        Due.test("Reducing: a panel is gone with its crease", BoundaryFoldingTest::goneWithItsCrease);
+        Due.test("Reducing: a shorter piece behind a longer one", BoundaryFoldingTest::shorterBehindLonger);
         Due.test("Reducing: the first of these steps", BoundaryFoldingTest::stepsInTheirOrder);
         Due.test("Reducing: 3, neither the first nor the last one", BoundaryFoldingTest::neitherFirstNorLastIsCrimped);
         Due.test("Reducing: 3, not longer than both beside it", BoundaryFoldingTest::crimpedNotLongerThanBoth);

@@ -272,6 +272,32 @@ public final class BoundaryStateTest extends Theatres {
         }
     }
 
+    /** 512 calls, of which the last one answers as the first one does. */
+    private static void manyCalls() {
+        FoldedTheatre x = new FoldedTheatre();
+        int calls = 0;
+        int width = 30;
+        for (; calls < 128; calls++) {
+            Due.due("stage", x.stage(1 + calls % 99), width);
+            width = 1 + calls % 99;
+        }
+        for (; calls < 500; calls += 6) {
+            Due.due("add", x.add(0, 323, 12), 0);
+            Due.due("fold", x.fold(0), 4);
+            Due.due("unfold", x.unfold(0), width);
+            Due.due("fold", x.fold(0), 4);
+            Due.due("ways", x.ways(0), 1);
+            Due.due("drop", x.drop(0), 0);
+        }
+        Due.due("the changes", x.account(12), 8);
+        Due.due("how often something was folded", x.account(10), 124);
+        Due.due("save", x.save(), 0);
+        for (calls += 3; calls < 511; calls++) {
+            Due.due("add", x.add(0, 12, 1), calls - 503);
+        }
+        Due.due("the call " + (calls + 1), x.restore(), 0);
+    }
+
     // ---- 31 to 33
 
     private static void undoReturns() {
@@ -419,6 +445,7 @@ public final class BoundaryStateTest extends Theatres {
         Due.test("Errors: the state is left", BoundaryStateTest::errorsLeaveTheState);
         Due.test("Errors: the state is left by add to 8 pieces", BoundaryStateTest::addToEightLeavesTheState);
         Due.test("Errors: read leaves the state, but the text", BoundaryStateTest::readLeavesTheStateButTheText);
+        Due.test("What it is: 512 calls", BoundaryStateTest::manyCalls);
         Due.test("31: undo", BoundaryStateTest::undoReturns);
         Due.test("31: undo, and changes after it", BoundaryStateTest::undoBeyondTheRing);
         Due.test("31 and 33: the text and the reasons stay", BoundaryStateTest::textAndReasonsStay);
