@@ -1,4 +1,4 @@
-/** The four examples of "Terms", call by call. */
+/** The four examples of "Terms", call by call, and those of README.md. */
 public final class ExamplesTest {
     private ExamplesTest() {
     }
@@ -62,11 +62,23 @@ public final class ExamplesTest {
         Due.due("account(0)", x.account(0), 1);
     }
 
+    private static void readme() {
+        FoldedTheatre x = new FoldedTheatre();
+        Due.due("add(0, 323, 12)", x.add(0, 323, 12), 0);
+        Due.due("why(0)", x.why(0), 0);
+        Due.due("step(0)", x.step(0), 11);
+        Due.due("fold(0)", x.fold(0), 4);
+        Due.due("account(5)", x.account(5), 26);
+        Due.due("read()", Due.read(x, "s22:o;m1.0=v;f1"), 3);
+        Due.due("account(5)", x.account(5), 24);
+    }
+
     public static void main(String[] args) {
         Due.test("Examples: a strip, its steps and layers", ExamplesTest::stripStepsAndLayers);
         Due.test("Examples: a corner that stands on the stage", ExamplesTest::cornerOnTheStage);
         Due.test("Examples: strips that are joined and cut", ExamplesTest::joinedAndCut);
         Due.test("Examples: texts, and a corner that does not fold", ExamplesTest::texts);
+        Due.test("Examples: those of README.md", ExamplesTest::readme);
         Due.finish();
     }
 }

@@ -9,6 +9,8 @@ import java.util.Arrays;
 import java.util.List;
 import java.util.Set;
 import java.util.TreeSet;
+import java.util.regex.Matcher;
+import java.util.regex.Pattern;
 
 /** The public face, and those rules of LANGUAGE.md that can be looked up quickly. */
 public final class FaceTest {
@@ -18,6 +20,14 @@ public final class FaceTest {
         "append 1", "read 0", "refusal 1", "account 1", "share 0", "undo 0", "save 0", "restore 0"));
     private static final List<String> FORBIDDEN = List.of("import ", "package ", "->", "::", "finally", "synchronized",
         "assert ", "catch", "throw", "Exact(", "System.", "Thread", "Random", "var ", "\" +", "+ \"", "lambda");
+
+    /** What the interface says ahead of which calls. */
+    private static final String[] PARTS = {
+        "pieces: stage add mark turn rotate join cut fold unfold drop piece size crease",
+        "folding: why foldsAgain step steps ways fewest",
+        "places, layers, reflections: place layer orders thickest reflected",
+        "texts, accounts: append read refusal account share",
+        "undo and snapshot: undo save restore"};
 
     private FaceTest() {
     }
@@ -94,10 +104,29 @@ public final class FaceTest {
         Due.due("only signs from 1 to 127", source.chars().allMatch(c -> c >= 1 && c <= 127));
     }
 
+    private static void headings() {
+        String source = text();
+        for (String part : PARTS) {
+            String[] headingAndCalls = part.split(": ");
+            String heading = "    // ---- " + headingAndCalls[0] + "\n";
+            int start = source.indexOf(heading) + heading.length();
+            Due.due(heading, start >= heading.length());
+            String under = source.substring(start, source.indexOf("    // ---- ", start));
+            StringBuilder calls = new StringBuilder();
+            Matcher matcher = Pattern.compile("public int (\\w+)\\(").matcher(under);
+            while (matcher.find()) {
+                calls.append(calls.length() == 0 ? "" : " ").append(matcher.group(1));
+            }
+            Due.due("under '" + headingAndCalls[0] + "' are the calls " + calls,
+                calls.toString().equals(headingAndCalls[1]));
+        }
+    }
+
     public static void main(String[] args) {
         Due.test("Face: the constants", FaceTest::constants);
         Due.test("Face: the public members", FaceTest::members);
         Due.test("Face: the classes inside", FaceTest::classes);
+        Due.test("Face: the headings of the calls", FaceTest::headings);
         Due.test("Face: the source keeps to the language", FaceTest::source);
         Due.finish();
     }
